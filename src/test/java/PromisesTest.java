@@ -212,6 +212,17 @@ public final class PromisesTest {
         state(x::undo);
         aboutIs(x, 2, 2, 0, 1, 1, 0, 0, 3, 7, 0, 0, 10, 2, 1);
         due(32, x.clearText());
+        FrameCard used = card("C081101s000000s999999n1n1n9s000000s000000s000000s000000s000000");
+        tell(used.about(5) > 0 && used.about(6) > 0 && used.about(4) > 0 && used.about(9) > 0 && used.about(10) > 0,
+                "the card that is to be made new had too little in it");
+        used.ticks(1);
+        used.clearText();
+        type(used, "C482204");
+        due(0, used.load());
+        aboutIs(used, 0, 0, 0, 0, 0, 0, 0, 48, 0, 0, 0, 48, 0, 0);
+        index(() -> used.broken(0, 0));
+        used.shoot(0);
+        due(7, used.waiting(0, 2));
         aboutIs(card("C482204"), 0, 0, 0, 0, 0, 0, 0, 48, 0, 0, 0, 48, 0, 0);
     }
 
@@ -630,6 +641,41 @@ public final class PromisesTest {
         x.shoot(9);
         due(7, x.waiting(0, 2));
         undoLeavesTextAndSlots();
+        undoBringsBackAll();
+    }
+
+    private static void undoBringsBackAll() {
+        FrameCard x = card("C081301s000000s999999s000000s999999s000000n9");
+        int[] before = new int[14];
+        for (int what = 0; what < 14; what++) {
+            before[what] = x.about(what);
+        }
+        int why = x.broken(0, 1);
+        int round = x.broken(9 < before[10] ? 9 : before[10] - 1, 0);
+        x.set(2, 20);
+        x.shoot(1);
+        x.shoot(1);
+        x.shoot(1);
+        x.shoot(1);
+        x.ticks(50);
+        x.format(48);
+        x.load();
+        aboutIs(x, before);
+        x.set(2, 1);
+        x.set(1, 9);
+        x.shoot(0);
+        x.shoot(0);
+        x.shoot(0);
+        x.ticks(30);
+        for (int k = 0; k < 6; k++) {
+            x.undo();
+        }
+        state(x::undo);
+        aboutIs(x, before);
+        due(why, x.broken(0, 1));
+        due(round, x.broken(9 < before[10] ? 9 : before[10] - 1, 0));
+        due(1, x.setting(2));
+        due(3, x.setting(1));
     }
 
     private static void undoLeavesTextAndSlots() {
@@ -812,6 +858,24 @@ public final class PromisesTest {
         due(-1, x.runScript(2, 20000018000001L));
         due(1, x.runScript(2, 20000018000002L));
         due(0, x.runScript(2, 2000001L));
+        frameNumberOfThreeDigits();
+    }
+
+    private static void frameNumberOfThreeDigits() {
+        FrameCard x = new FrameCard();
+        for (int i = 0; i < 123; i++) {
+            x.shoot(0);
+        }
+        x.format(48);
+        x.shoot(0);
+        x.ticks(1);
+        due(123, x.frame(0, 0));
+        due(-1, x.runScript(1, 9000123L));
+        due(0, x.runScript(1, 9000122L));
+        due(0, x.runScript(1, 9000023L));
+        due(0, x.runScript(1, 9001123L));
+        due(0, x.runScript(1, 5000123L));
+        due(0, x.runScript(1, 6000123L));
     }
 
     private static void promise24() {
@@ -831,10 +895,17 @@ public final class PromisesTest {
         for (int i = 0; i < 5; i++) {
             x.shoot(0);
         }
-        int before = x.simulate(7L, 1);
-        due(before, x.simulate(7L, 1));
+        due(4, x.simulate(3L, 1) % 100);
         due(1, x.about(4));
         due(1, x.about(5));
+        FrameCard losing = card("C080209s000000n1s999999s000000s999999s000000s999999");
+        due(1, losing.about(5));
+        due(1, losing.about(2));
+        int answer = losing.simulate(5L, 99);
+        tell(answer / 100 % 100 > 20, "simulate tells no lost frames: " + answer);
+        due(1, answer / 10000);
+        due(0, answer % 100);
+        due(answer, losing.simulate(5L, 99));
     }
 
     /** The same turns, told as calls on another new card. */
