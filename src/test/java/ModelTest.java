@@ -536,10 +536,18 @@ public final class ModelTest {
         }
     }
 
+    /** Behind this many calls an object's answers are free. */
+    private static final int CALLS_OF_AN_OBJECT = 512;
+
     private static final StringBuilder story = new StringBuilder();
+    private static int calls = 0;
     private static int wrong = 0;
 
     private static void compare(FrameCard x, Model m, int call, int a, int b, long c) {
+        if (calls == CALLS_OF_AN_OBJECT) {
+            return;
+        }
+        calls++;
         String want;
         try {
             want = Integer.toString(m.answer(call, a, b, c));
@@ -653,7 +661,7 @@ public final class ModelTest {
         compare(x, m, call, a, b, c);
     }
 
-    /** Everything that can be looked at; the same object is looked at too long for a run of its own. */
+    /** Everything that can be looked at. */
     private static void lookAtAll(FrameCard x, Model m) {
         for (int what = 0; what < 14; what++) {
             compare(x, m, 4, what, 0, 0L);
@@ -683,6 +691,7 @@ public final class ModelTest {
 
     private static void run(int kind) {
         story.setLength(0);
+        calls = 0;
         FrameCard x = new FrameCard();
         Model m = new Model();
         if (kind % 3 != 0) {
@@ -690,11 +699,9 @@ public final class ModelTest {
             compare(x, m, 2, 0, 0, 0L);
             compare(x, m, 3, 0, 0, 0L);
         }
-        for (int k = 0; k < 300 && wrong == 0; k++) {
+        int steps = pick(kind % 4 == 0 ? 400 : 120);
+        for (int k = 0; k < steps && wrong == 0; k++) {
             anyCall(x, m);
-            if (kind % 10 == 0) {
-                lookAtAll(x, m);
-            }
         }
         lookAtAll(x, m);
         for (int k = 0; k < 15; k++) {
@@ -704,7 +711,7 @@ public final class ModelTest {
     }
 
     public static void main(String[] args) {
-        int runs = args.length > 0 ? Integer.parseInt(args[0]) : 400;
+        int runs = args.length > 0 ? Integer.parseInt(args[0]) : 1000;
         for (int k = 0; k < runs && wrong == 0; k++) {
             run(k);
         }

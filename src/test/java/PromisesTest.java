@@ -1,87 +1,5 @@
 /** For each promise: ordinary inputs, the edges that the document names, and wrong inputs. */
-public final class PromisesTest {
-    private interface Call {
-        int answer();
-    }
-
-    private static int passed = 0;
-    private static int failed = 0;
-    private static int promise = 0;
-
-    private static void due(int want, int got) {
-        tell(want == got, "answered " + got + ", due is " + want);
-    }
-
-    private static void tell(boolean right, String what) {
-        if (right) {
-            passed++;
-            return;
-        }
-        failed++;
-        StackTraceElement[] at = new Throwable().getStackTrace();
-        int line = 0;
-        for (StackTraceElement e : at) {
-            if (e.getMethodName().startsWith("promise")) {
-                line = e.getLineNumber();
-                break;
-            }
-        }
-        System.out.println("promise " + promise + ", line " + line + ": " + what);
-    }
-
-    private static void throwsOut(Class<?> want, Call call) {
-        Class<?> got = null;
-        try {
-            call.answer();
-        } catch (RuntimeException e) {
-            got = e.getClass();
-        }
-        tell(want.equals(got), "threw " + got + ", due is " + want);
-    }
-
-    private static void index(Call call) {
-        throwsOut(IndexOutOfBoundsException.class, call);
-    }
-
-    private static void argument(Call call) {
-        throwsOut(IllegalArgumentException.class, call);
-    }
-
-    private static void state(Call call) {
-        throwsOut(IllegalStateException.class, call);
-    }
-
-    /** Answers of about(0) to about(13), in one line each. */
-    private static void aboutIs(FrameCard x, int... want) {
-        for (int what = 0; what < want.length; what++) {
-            int got = x.about(what);
-            tell(got == want[what], "about(" + what + ") answered " + got + ", due is " + want[what]);
-        }
-    }
-
-    private static FrameCard text(String text) {
-        FrameCard x = new FrameCard();
-        type(x, text);
-        return x;
-    }
-
-    private static void type(FrameCard x, String text) {
-        for (int i = 0; i < text.length(); i++) {
-            x.append(text.charAt(i));
-        }
-    }
-
-    private static FrameCard card(String text) {
-        FrameCard x = text(text);
-        x.load();
-        return x;
-    }
-
-    private static void errorIs(int want, String text) {
-        int got = text(text).errorPosition();
-        tell(got == want, "errorPosition of " + text + " answered " + got + ", due is " + want);
-    }
-
+public final class PromisesTest extends Checks {
     private static void promise01() {
         FrameCard x = new FrameCard();
         aboutIs(x, 0, 0, 0, 0, 0, 0, 0, 24, 0, 0, 0, 24, 0, 0);
@@ -982,15 +900,12 @@ public final class PromisesTest {
             PromisesTest::promise20, PromisesTest::promise21, PromisesTest::promise22, PromisesTest::promise23,
             PromisesTest::promise24, PromisesTest::promise25, PromisesTest::promise26};
         for (int k = 0; k < all.length; k++) {
-            promise = k + 1;
             try {
                 all[k].run();
             } catch (RuntimeException e) {
-                failed++;
-                System.out.println("promise " + promise + ": " + e + " at " + e.getStackTrace()[0]);
+                tell(false, "promise " + (k + 1) + ": " + e + " at " + e.getStackTrace()[0]);
             }
         }
-        System.out.println("promises: " + passed + " answers as due, " + failed + " not");
-        System.exit(failed == 0 ? 0 : 1);
+        end("promises");
     }
 }
