@@ -124,6 +124,19 @@ public final class RulesTest {
         for (String line : code.split("\n")) {
             need(line.length() <= 120, "a long line: " + line);
         }
+        lengths(code);
+    }
+
+    /** A method begins with a line that opens a body behind its parameters, and ends with a brace as far in. */
+    private static void lengths(String code) {
+        Matcher method = Pattern.compile("(?m)^( {4}| {8})\\w[^\n;=]*\\)[^\n;]*\\{\n(?s:.*?)^\\1\\}").matcher(code);
+        int found = 0;
+        while (method.find()) {
+            found++;
+            String whole = method.group();
+            need(whole.split("\n").length <= 60, "a long method: " + whole.substring(0, whole.indexOf('\n')));
+        }
+        need(found > FACE.length, "only " + found + " methods found");
     }
 
     /** A new object for every call of a room of 512 calls still fits into the room. */
